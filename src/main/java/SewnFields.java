@@ -377,6 +377,20 @@ public final class SewnFields {
         }
     }
 
+    private static void wipe(boolean[] marks) {
+        for (int i = 0; i < marks.length; i++) {
+            marks[i] = false;
+        }
+    }
+
+    private static int countTrue(boolean[] marks) {
+        int n = 0;
+        for (boolean mark : marks) {
+            n += mark ? 1 : 0;
+        }
+        return n;
+    }
+
     /** Returns the place of a cell, NONE beyond the largest cloth. */
     private static int placeOf(int x, int y) {
         return within(x, 0, MAX_WIDTH - 1) && within(y, 0, MAX_HEIGHT - 1) ? MAX_WIDTH * y + x : NONE;
@@ -475,12 +489,20 @@ public final class SewnFields {
             return width() * (place / MAX_WIDTH) + place % MAX_WIDTH;
         }
 
+        /** Tells whether a cell of the one colour lies beside a cell of the other one. */
         boolean touch(int colour, int other) {
             for (int place = 0; place < PLACES; place++) {
-                for (int side = 0; colourAt(place) == colour && side < SIDES; side++) {
-                    if (colourAt(beside(place, side)) == other) {
-                        return true;
-                    }
+                if (colourAt(place) == colour && isBeside(place, other)) {
+                    return true;
+                }
+            }
+            return false;
+        }
+
+        private boolean isBeside(int place, int colour) {
+            for (int side = 0; side < SIDES; side++) {
+                if (colourAt(beside(place, side)) == colour) {
+                    return true;
                 }
             }
             return false;
@@ -491,13 +513,13 @@ public final class SewnFields {
         }
 
         void saveTo(int[] row) {
-            if (row.length == SIZE) {
+            if (row != null && row.length == SIZE) {
                 System.arraycopy(values, 0, row, 0, SIZE);
             }
         }
 
         void loadFrom(int[] row) {
-            if (row.length == SIZE) {
+            if (row != null && row.length == SIZE) {
                 System.arraycopy(row, 0, values, 0, SIZE);
             }
         }
@@ -856,25 +878,23 @@ public final class SewnFields {
 
         /** Returns how many fields touch a field. */
         int touching(int f) {
-            Arrays.fill(touched, false);
+            wipe(touched);
             for (int place = 0; place < PLACES; place++) {
-                for (int side = 0; fields[place] == f && side < SIDES; side++) {
-                    int other = fieldAt(beside(place, side));
-                    if (other >= 0 && other < PLACES && other != f) {
-                        touched[other] = true;
-                    }
+                if (fields[place] == f) {
+                    markBeside(place, f);
                 }
             }
             return countTrue(touched);
         }
-    }
 
-    private static int countTrue(boolean[] marks) {
-        int n = 0;
-        for (boolean mark : marks) {
-            n += mark ? 1 : 0;
+        private void markBeside(int place, int f) {
+            for (int side = 0; side < SIDES; side++) {
+                int other = fieldAt(beside(place, side));
+                if (other >= 0 && other < PLACES && other != f) {
+                    touched[other] = true;
+                }
+            }
         }
-        return n;
     }
 
     /**
@@ -987,7 +1007,7 @@ public final class SewnFields {
 
         /** Marks the cells that are covered when the rows are pulled. */
         void cover(Cloth cloth) {
-            Arrays.fill(covered, false);
+            wipe(covered);
             for (int r = 0; r < rowsLaid; r++) {
                 int from = Math.max(at(firsts, r) - cloth.pull(), 0);
                 int to = Math.min(at(lasts, r) + cloth.pull(), lineLength(cloth) - 1);
@@ -1096,19 +1116,19 @@ public final class SewnFields {
     private static final class SewingOrder {
 
         private final int[] sequence = new int[MAX_ORDERED];
-        private final boolean[] isSewn = new boolean[COLOURS + 1];
+        private final boolean[] done = new boolean[COLOURS + 1];
         private int size;
         private int coloursSewn;
 
         void lay(Cloth cloth, FieldMap map) {
-            Arrays.fill(isSewn, false);
+            wipe(done);
             size = 0;
             coloursSewn = 0;
             for (int i = 0; i < COLOURS; i++) {
                 int colour = nextColour(cloth, map);
                 if (colour > BARE && colour <= COLOURS) {
                     addFields(map, colour);
-                    isSewn[colour] = true;
+                    done[colour] = true;
                     coloursSewn++;
                 }
             }
@@ -1133,7 +1153,7 @@ public final class SewnFields {
         }
 
         private boolean isSewn(int colour) {
-            return within(colour, 0, COLOURS) && isSewn[colour];
+            return within(colour, 0, COLOURS) && done[colour];
         }
 
         private boolean mustWait(Cloth cloth, int colour) {
