@@ -599,7 +599,7 @@ public final class SewnFields {
                 return false;
             }
             for (int i = 0; i < end - start; i++) {
-                if (!within(digit(i), low, high)) {
+                if (!within(tokenLetter(i) - '0', low, high)) {
                     return false;
                 }
             }

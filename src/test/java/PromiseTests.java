@@ -1,8 +1,7 @@
 import java.util.function.ToIntFunction;
 
 /** Tests of each promise by answers that were worked out by hand. */
-final class PromiseTests {
-    private static final int BAD = -1, STATE = -2, FULL = -3, NONE = -9;
+final class PromiseTests extends ClothTests {
     private static final int[] FAR = {Integer.MIN_VALUE, Integer.MAX_VALUE};
 
     private PromiseTests() {
@@ -39,72 +38,6 @@ final class PromiseTests {
         Check.run("20 keep", PromiseTests::keep);
         Check.run("21 back", PromiseTests::back);
         Check.run("22 count", PromiseTests::count);
-        Check.run("errors change nothing", PromiseTests::errorsChangeNothing);
-    }
-
-    // ---- helpers
-
-    private static void types(SewnFields x, String text) {
-        for (int i = 0; i < text.length(); i++) {
-            x.type(text.charAt(i));
-        }
-    }
-
-    /** Makes an object with the cloth of a text. */
-    private static SewnFields cloth(String text) {
-        SewnFields x = new SewnFields();
-        types(x, text);
-        int items = x.tells();
-        if (items < 1) {
-            Check.tell("\"" + text + "\" is refused with " + items);
-        }
-        return x;
-    }
-
-    private static void fault(String text, int place) {
-        SewnFields x = new SewnFields();
-        types(x, text);
-        Check.due("tells() of \"" + text + "\"", x.tells(), -10 - place);
-        Check.due("count(7) after it", x.count(7), text.length());
-        Check.due("count(8) after it", x.count(8), 0);
-        Check.same("the cloth after it", look(x), look(new SewnFields()));
-    }
-
-    private static void told(String text, int items) {
-        SewnFields x = new SewnFields();
-        types(x, text);
-        Check.due("tells() of \"" + text + "\"", x.tells(), items);
-        Check.due("count(7) after it", x.count(7), 0);
-    }
-
-    /** Writes down a cloth's size, colours, pull and stitch length, and what shows its directions and ranks. */
-    private static String look(SewnFields x) {
-        StringBuilder s = new StringBuilder();
-        for (int what = 0; what <= 5; what++) {
-            s.append(x.count(what)).append(' ');
-        }
-        for (int y = 0; y < x.count(1); y++) {
-            s.append('/');
-            for (int i = 0; i < x.count(0); i++) {
-                s.append(x.cell(i, y, 0));
-            }
-        }
-        for (int f = 0; f < x.count(2); f++) {
-            s.append(' ').append(x.field(f, 3)).append(',').append(x.field(f, 4)).append(',').append(x.order(f));
-        }
-        return s.toString();
-    }
-
-    private static void dueCells(SewnFields x, String colours) {
-        Check.same("the cloth", look(x).split(" ")[6], colours);
-    }
-
-    /** Compares one property of the numbers 0, 1 and so on; behind the last one there is due what is told by after. */
-    private static void dueEach(String call, ToIntFunction<Integer> got, int after, int... due) {
-        for (int i = 0; i < due.length; i++) {
-            Check.due(call + " of " + i, got.applyAsInt(i), due[i]);
-        }
-        Check.due(call + " of " + due.length, got.applyAsInt(due.length), after);
     }
 
     // ---- the promises
@@ -829,63 +762,5 @@ final class PromiseTests {
         for (int what : new int[] {-1, 9, Integer.MIN_VALUE, Integer.MAX_VALUE}) {
             Check.due("count(" + what + ")", x.count(what), BAD);
         }
-    }
-
-    /** Makes an object with something of everything, in which no call of errors below may change anything. */
-    private static SewnFields busy() {
-        SewnFields x = cloth("row 112;row 032;way 2 1;rank 1 4;most 2;pull 1;");
-        x.keep(0);
-        x.paints(1, 0, 2, 0, 1);
-        x.ranks(3, 2);
-        x.sees(0, 0, 1);
-        types(x, "row 5;");
-        return x;
-    }
-
-    private static void errorsChangeNothing() {
-        refused("type(256)", x -> x.type(256), BAD);
-        refused("tells()", x -> x.tells(), -14);
-        refused("paints(0, 0, 3, 1, 1)", x -> x.paints(0, 0, 3, 1, 1), BAD);
-        refused("paints(0, 0, 2, 1, 4)", x -> x.paints(0, 0, 2, 1, 4), BAD);
-        refused("paints(0, 0, 2, 0, 1)", x -> x.paints(0, 0, 2, 0, 1), STATE);
-        refused("ways(2, 2)", x -> x.ways(2, 2), BAD);
-        refused("ways(2, 1)", x -> x.ways(2, 1), STATE);
-        refused("ranks(1, 10)", x -> x.ranks(1, 10), BAD);
-        refused("ranks(1, 4)", x -> x.ranks(1, 4), STATE);
-        refused("mosts(6)", x -> x.mosts(6), BAD);
-        refused("mosts(2)", x -> x.mosts(2), STATE);
-        refused("pulls(3)", x -> x.pulls(3), BAD);
-        refused("pulls(1)", x -> x.pulls(1), STATE);
-        refused("cell(0, 0, 2)", x -> x.cell(0, 0, 2), BAD);
-        refused("field(9, 0)", x -> x.field(9, 0), BAD);
-        refused("sewn(0, 2, 0)", x -> x.sewn(0, 2, 0), BAD);
-        refused("row(0, 0, 9, 0)", x -> x.row(0, 0, 9, 0), NONE);
-        refused("part(0, 0, 9, 0)", x -> x.part(0, 0, 9, 0), NONE);
-        refused("order(-2)", x -> x.order(-2), BAD);
-        refused("sees(0, 0, 100)", x -> x.sees(0, 0, 100), BAD);
-        refused("which(2)", x -> x.which(2), BAD);
-        refused("keep(2)", x -> x.keep(2), BAD);
-        refused("back(2)", x -> x.back(2), BAD);
-        refused("back(1)", x -> x.back(1), STATE);
-        refused("count(9)", x -> x.count(9), BAD);
-    }
-
-    private static void refused(String name, ToIntFunction<SewnFields> call, int due) {
-        SewnFields untouched = busy();
-        SewnFields x = busy();
-        Check.due(name, call.applyAsInt(x), due);
-        Check.same("the object after " + name, inside(x), inside(untouched));
-    }
-
-    /** Writes down the cloth, what can be undone, the text, the observations, and the snapshots; uses them up. */
-    private static String inside(SewnFields x) {
-        StringBuilder s = new StringBuilder(look(x));
-        s.append(" |").append(x.count(6)).append(x.count(7)).append(x.count(8)).append(x.which(0)).append(x.tells());
-        for (int left = x.count(8); left > 0; left--) {
-            s.append(" |").append(x.undo()).append(' ').append(look(x));
-        }
-        s.append(" |").append(x.back(1)).append(x.back(0)).append(' ').append(look(x));
-        s.append(" |").append(x.forget()).append(x.clear());
-        return s.toString();
     }
 }
