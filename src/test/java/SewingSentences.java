@@ -532,6 +532,10 @@ final class SewingSentences extends ClothTests {
         x.ranks(1, 1);
         dueEach("order(k)", x::order, NONE, 1, 3, 4, 0, 2);
         Check.due("order(-1)", x.order(-1), 1);
+        // the first field might be sewn at once, but this would make a change more
+        SewnFields free = cloth("row 1021;rank 1 1;");
+        dueEach("order(k)", free::order, NONE, 1, 0, 2);
+        Check.due("order(-1)", free.order(-1), 1);
         // all fields are in it, also those that touch none
         SewnFields apart = cloth("row 10203010;");
         dueEach("order(k)", apart::order, NONE, 0, 3, 1, 2);
