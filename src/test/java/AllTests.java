@@ -7,9 +7,12 @@ public final class AllTests {
 
     public static void main(String[] args) {
         watch();
+        String source = args.length > 0 ? args[0] : "src/main/java/SewnFields.java";
+        String document = args.length > 1 ? args[1] : "../shared/DOC.md";
         PromiseTests.all();
-        sentences(args.length > 1 ? args[1] : "../shared/DOC.md");
-        RulesTests.all(args.length > 0 ? args[0] : "src/main/java/SewnFields.java");
+        sentences(document);
+        RulesTests.all(source, document);
+        ReadmeTests.all("README.md");
         Check.run("random runs", () -> RandomRuns.all(3000));
         Check.close();
     }

@@ -8,7 +8,7 @@ import java.util.Set;
 import java.util.function.Supplier;
 import java.util.function.ToIntFunction;
 
-/** Tests of each sentence of CHANGES and ERRORS. */
+/** Tests of each sentence of CHANGES and ERRORS; what is not promised needs none. */
 final class ErrorSentences extends ClothTests {
     private static final String CHANGES = "CHANGES", ERRORS = "ERRORS";
 
@@ -32,6 +32,10 @@ final class ErrorSentences extends ClothTests {
         s.test(ERRORS, "`BAD = -1, STATE = -2, FULL = -3, NONE = -9`: Error codes, and NONE for no value.",
                 ErrorSentences::constants);
         s.plain(ERRORS, "The constructor and the methods follow, a promise each: the signature, then what it does.");
+        s.plain("Not promised", "How the state is held inside the object is free, as are the speed of each call, the text "
+                + "of toString and the behaviour of equals and hashCode. Use of one object from several threads at once "
+                + "is not promised to be safe. Nothing is promised beyond the answers and state changes described above, "
+                + "and nothing about an object after its 512th call.");
     }
 
     // ---- objects in which something is at its limit

@@ -1,30 +1,30 @@
+import java.io.DataInputStream;
 import java.io.IOException;
+import java.io.InputStream;
 import java.lang.reflect.Constructor;
 import java.lang.reflect.Field;
 import java.lang.reflect.Method;
 import java.lang.reflect.Modifier;
-import java.nio.charset.StandardCharsets;
-import java.nio.file.Files;
-import java.nio.file.Path;
-import java.util.Arrays;
+import java.util.ArrayList;
+import java.util.HashSet;
 import java.util.List;
+import java.util.Set;
 import java.util.TreeSet;
 import java.util.regex.Matcher;
 import java.util.regex.Pattern;
 
-/** Tests of those rules of LANGUAGE.md that can be seen from the class and from its text. */
+/** Tests of the public face, and of those rules of LANGUAGE.md that can be seen from the class and from its text. */
 final class RulesTests {
-    private static final List<String> FACE = List.of("type(int)", "clear()", "tells()", "paints(int,int,int,int,int)",
-            "ways(int,int)", "ranks(int,int)", "mosts(int)", "pulls(int)", "undo()", "cell(int,int,int)",
-            "field(int,int)", "sewn(int,int,int)", "row(int,int,int,int)", "part(int,int,int,int)", "order(int)",
-            "sees(int,int,int)", "forget()", "which(int)", "keep(int)", "back(int)", "count(int)");
-    private static final int MOST_LINES = 60;
+    private static final int MOST_LINES = 60, MOST_PARAMETERS = 7, MOST_FIELDS = 20, MOST_CLASSES = 12;
+    private static final Pattern LIBRARY = Pattern.compile("SewnFields.*|java/lang/Object\\.<init>|java/util/Arrays\\.fill"
+            + "|java/lang/System\\.arraycopy|java/lang/Math\\.(min|max)|java/lang/String\\.(length|charAt)");
 
     private RulesTests() {
     }
 
-    static void all(String source) {
-        Check.run("the face", RulesTests::face);
+    static void all(String source, String document) {
+        Check.run("the face", () -> face(document));
+        Check.run("the library", RulesTests::library);
         Check.run("the classes inside", RulesTests::inside);
         Check.run("the text of the program", () -> text(source));
     }
@@ -37,66 +37,151 @@ final class RulesTests {
         return s.append(')').toString();
     }
 
-    private static void face() {
+    /** Compares the class with the public face in the document, and with the signatures of its promises. */
+    private static void face(String document) {
         TreeSet<String> methods = new TreeSet<>();
         for (Method method : SewnFields.class.getDeclaredMethods()) {
             if (!Modifier.isPrivate(method.getModifiers())) {
-                Check.due(method + " is public and answers an int",
-                        Modifier.isPublic(method.getModifiers()) && method.getReturnType() == int.class ? 1 : 0, 1);
-                methods.add(signature(method));
+                methods.add(Modifier.toString(method.getModifiers()) + " " + method.getReturnType() + " " + signature(method));
             }
         }
-        Check.same("the methods", methods.toString(), new TreeSet<>(FACE).toString());
         TreeSet<String> constants = new TreeSet<>();
         for (Field field : SewnFields.class.getDeclaredFields()) {
             if (!Modifier.isPrivate(field.getModifiers())) {
-                constants.add(Modifier.toString(field.getModifiers()) + " " + field.getName());
+                constants.add(Modifier.toString(field.getModifiers()) + " " + field.getType() + " " + field.getName());
             }
         }
-        Check.same("the constants", constants.toString(), "[public static final BAD, public static final FULL,"
-                + " public static final NONE, public static final STATE]");
+        TreeSet<String> dueMethods = new TreeSet<>();
+        TreeSet<String> duePromises = new TreeSet<>();
+        TreeSet<String> dueConstants = new TreeSet<>();
+        for (String line : Sentences.lines(document)) {
+            String told = line.strip().replaceAll("(?<=int) \\w+(?=[,)])|(?<=,) ", "");
+            if (told.matches("public int .*;")) {
+                dueMethods.add(told.replace(";", ""));
+            } else if (told.matches("`int .*`")) {
+                duePromises.add("public " + told.replace("`", ""));
+            } else if (told.startsWith("public static final int ")) {
+                Matcher name = Pattern.compile("\\w+(?= =)").matcher(told);
+                name.results().forEach(found -> dueConstants.add("public static final int " + found.group()));
+            }
+        }
+        Check.due("methods in the document", dueMethods.size(), 21);
+        Check.same("the methods", methods.toString(), dueMethods.toString());
+        Check.same("the promises", methods.toString(), duePromises.toString());
+        Check.same("the constants", constants.toString(), dueConstants.toString());
         Constructor<?>[] constructors = SewnFields.class.getDeclaredConstructors();
         Check.due("constructors", constructors.length, 1);
+        Check.due("the constructor is public", constructors[0].getModifiers(), Modifier.PUBLIC);
         Check.due("the class is public and final", SewnFields.class.getModifiers(), Modifier.PUBLIC | Modifier.FINAL);
     }
 
-    private static void inside() {
-        Class<?>[] classes = SewnFields.class.getDeclaredClasses();
-        Check.due("at most twelve classes", classes.length + 1 <= 12 ? 1 : 0, 1);
-        for (Class<?> c : classes) {
-            int modifiers = c.getModifiers();
-            Check.due(c + " is static, and not public or protected",
-                    Modifier.isStatic(modifiers) && !Modifier.isPublic(modifiers) && !Modifier.isProtected(modifiers) ? 1 : 0, 1);
-            for (Method method : c.getDeclaredMethods()) {
-                Check.due(method + " bears no name of the face",
-                        FACE.stream().anyMatch(f -> f.startsWith(method.getName() + "(")) ? 1 : 0, 0);
-            }
-        }
-        for (Class<?> c : Arrays.asList(classes)) {
-            fewFields(c);
-        }
-        fewFields(SewnFields.class);
+    private static List<Class<?>> classes() {
+        List<Class<?>> classes = new ArrayList<>(List.of(SewnFields.class));
+        classes.addAll(List.of(SewnFields.class.getDeclaredClasses()));
+        return classes;
     }
 
-    private static void fewFields(Class<?> c) {
-        long fields = Arrays.stream(c.getDeclaredFields()).filter(f -> !Modifier.isStatic(f.getModifiers())).count();
-        Check.due(c + " has at most twenty fields", fields <= 20 ? 1 : 0, 1);
+    /** Every method that the program calls, and every field that it uses, is its own or one of those that it may use. */
+    private static void library() {
+        for (Class<?> c : classes()) {
+            String file = c.getName() + ".class";
+            try (InputStream in = SewnFields.class.getResourceAsStream(file)) {
+                for (String used : usedBy(new DataInputStream(in))) {
+                    if (!LIBRARY.matcher(used).matches()) {
+                        Check.tell(c + " uses " + used);
+                    }
+                }
+            } catch (IOException e) {
+                Check.tell(file + " cannot be read: " + e);
+            }
+        }
+    }
+
+    /** Reads the members that a class refers to from its constants, whose form is told in the JVM's specification. */
+    private static List<String> usedBy(DataInputStream in) throws IOException {
+        in.skipNBytes(8);
+        int size = in.readUnsignedShort();
+        String[] texts = new String[size];
+        int[] firsts = new int[size];
+        int[] seconds = new int[size];
+        List<Integer> members = new ArrayList<>();
+        for (int i = 1; i < size; i++) {
+            int kind = in.readUnsignedByte();
+            switch (kind) {
+                case 1 -> texts[i] = in.readUTF();
+                case 3, 4 -> in.readInt();
+                case 5, 6 -> {
+                    in.readLong();
+                    i++;
+                }
+                case 7, 8 -> firsts[i] = in.readUnsignedShort();
+                case 9, 10, 11, 12 -> {
+                    firsts[i] = in.readUnsignedShort();
+                    seconds[i] = in.readUnsignedShort();
+                    if (kind != 12) {
+                        members.add(i);
+                    }
+                }
+                default -> throw new IOException("a constant of the kind " + kind + ", which no plain call needs");
+            }
+        }
+        List<String> used = new ArrayList<>();
+        for (int member : members) {
+            used.add(texts[firsts[firsts[member]]] + "." + texts[firsts[seconds[member]]]);
+        }
+        return used;
+    }
+
+    private static void inside() {
+        Set<String> face = new HashSet<>();
+        for (Method method : SewnFields.class.getDeclaredMethods()) {
+            if (Modifier.isPublic(method.getModifiers())) {
+                face.add(method.getName());
+            }
+        }
+        Check.due("at most twelve classes", classes().size() <= MOST_CLASSES ? 1 : 0, 1);
+        for (Class<?> c : classes()) {
+            int modifiers = c.getModifiers();
+            if (c != SewnFields.class && (!Modifier.isStatic(modifiers) || Modifier.isPublic(modifiers)
+                    || Modifier.isProtected(modifiers))) {
+                Check.tell(c + " is not static, or public or protected");
+            }
+            for (Method method : c.getDeclaredMethods()) {
+                if (face.contains(method.getName()) && (c != SewnFields.class || Modifier.isPrivate(method.getModifiers()))) {
+                    Check.tell(method + " bears a name of the face");
+                }
+                if (method.getParameterCount() > MOST_PARAMETERS) {
+                    Check.tell(method + " takes too many parameters");
+                }
+            }
+            fields(c);
+        }
+    }
+
+    private static void fields(Class<?> c) {
+        int ofObjects = 0;
+        for (Field field : c.getDeclaredFields()) {
+            if (!Modifier.isStatic(field.getModifiers())) {
+                ofObjects++;
+            } else if (field.getType() != int.class || !Modifier.isFinal(field.getModifiers())) {
+                Check.tell(field + " is no constant of int");
+            }
+        }
+        Check.due(c + " has at most twenty fields", ofObjects <= MOST_FIELDS ? 1 : 0, 1);
     }
 
     private static void text(String source) {
-        List<String> lines;
-        try {
-            lines = Files.readAllLines(Path.of(source), StandardCharsets.US_ASCII);
-        } catch (IOException e) {
-            Check.tell("the program cannot be read as ASCII: " + e);
-            return;
-        }
+        List<String> lines = Sentences.lines(source);
+        Check.due("lines of the program", lines.isEmpty() ? 0 : 1, 1);
         Pattern ruledOut = Pattern.compile("\\b(throw|throws|try|catch|finally|synchronized|assert|volatile|native|"
                 + "lambda|record|hashCode|toString|System\\.(?!arraycopy)\\w+)\\b|->|::");
         Pattern imports = Pattern.compile("import (?!java\\.util\\.(Arrays|ArrayList|List|Iterator);)");
         int methodStart = -1;
         for (int i = 0; i < lines.size(); i++) {
             String line = lines.get(i);
+            if (!line.chars().allMatch(c -> c >= 32 && c <= 126)) {
+                Check.tell("line " + (i + 1) + " has a sign beside 32 to 126");
+            }
             if (line.strip().startsWith("*") || line.strip().startsWith("/*") || line.strip().startsWith("//")) {
                 continue;
             }

@@ -3,6 +3,7 @@ import java.nio.charset.StandardCharsets;
 import java.nio.file.Files;
 import java.nio.file.Path;
 import java.util.LinkedHashMap;
+import java.util.List;
 import java.util.Map;
 
 /**
@@ -15,19 +16,28 @@ final class Sentences {
 
     Sentences(String document) {
         String section = "";
-        try {
-            for (String line : Files.readAllLines(Path.of(document), StandardCharsets.UTF_8)) {
-                String heading = headingOf(line);
-                section = heading.isEmpty() ? section : heading;
-                if (heading.isEmpty() && isProse(line)) {
-                    left.merge(section, line.strip(), (before, more) -> before + " " + more);
-                }
+        boolean inCode = false;
+        for (String line : lines(document)) {
+            String heading = inCode ? "" : headingOf(line);
+            boolean isFence = line.startsWith("```");
+            inCode ^= isFence;
+            section = heading.isEmpty() ? section : heading;
+            if (heading.isEmpty() && !inCode && !isFence && isProse(line)) {
+                left.merge(section, line.strip(), (before, more) -> before + " " + more);
             }
-        } catch (IOException e) {
-            Check.tell("the document cannot be read: " + e);
         }
-        left.replaceAll((name, text) -> text.replaceAll("\\s+", " "));
-        left.keySet().removeIf(name -> !name.matches("What it is|[A-Z ]+|Promise [0-9]+"));
+        left.replaceAll((name, text) -> text.replaceAll("\\s+", " ").strip());
+        left.values().removeIf(String::isEmpty);
+    }
+
+    /** Reads a file by its lines; there is none if it cannot be read. */
+    static List<String> lines(String file) {
+        try {
+            return Files.readAllLines(Path.of(file), StandardCharsets.UTF_8);
+        } catch (IOException e) {
+            Check.tell(file + " cannot be read: " + e);
+            return List.of();
+        }
     }
 
     /** Returns the name of the section that begins with a line, and nothing if none does. */
@@ -69,7 +79,7 @@ final class Sentences {
 
     void close() {
         Check.run("every sentence of the document has a test", () -> {
-            Check.due("sections", left.size(), 27);
+            Check.due("sections", left.size(), 28);
             left.forEach((section, text) -> {
                 if (!text.matches("[-| ]*")) {
                     Check.tell("in " + section + " there is no test of: " + text);
