@@ -542,7 +542,7 @@ public final class SewnFields {
         }
 
         void append(char letter) {
-            if (length < letters.length) {
+            if (length >= 0 && length < letters.length) {
                 letters[length] = letter;
                 length++;
             }
@@ -799,7 +799,7 @@ public final class SewnFields {
         }
 
         private void reach(int place, int n) {
-            if (place >= 0 && place < PLACES && size < PLACES) {
+            if (place >= 0 && place < PLACES && size >= 0 && size < PLACES) {
                 reached[size] = place;
                 steps[place] = n;
                 size++;
